@@ -860,32 +860,31 @@ public final class OneBoots {
             return false;
         }
 
+        /** FACTS with and and or between them; and binds first, so an or waits till its second PART is whole. */
         private boolean test(Tape tape, int depth) {
-            if (!part(tape, depth)) {
-                return false;
-            }
-            for (int i = 0; i < Tape.MOST && tape.wordIn("or") == 0; i++) {
-                tape.next();
-                if (!part(tape, depth)) {
-                    return false;
-                }
-                put(Rule.OR);
-            }
-            return true;
-        }
-
-        private boolean part(Tape tape, int depth) {
             if (!fact(tape, depth)) {
                 return false;
             }
-            for (int i = 0; i < Tape.MOST && tape.wordIn("and") == 0; i++) {
+            boolean waits = false;
+            for (int i = 0; i < Tape.MOST; i++) {
+                int word = tape.wordIn("and or");
+                if (word != 0 && waits) {
+                    put(Rule.OR);
+                }
+                if (word < 0) {
+                    return true;
+                }
                 tape.next();
                 if (!fact(tape, depth)) {
                     return false;
                 }
-                put(Rule.AND);
+                if (word == 0) {
+                    put(Rule.AND);
+                } else {
+                    waits = true;
+                }
             }
-            return true;
+            return false;
         }
 
         private boolean fact(Tape tape, int depth) {
@@ -947,41 +946,41 @@ public final class OneBoots {
             }
         }
 
+        /** VALUES with signs between them; a + or - waits till its second TERM is whole. */
         private boolean sum(Tape tape) {
-            if (!term(tape)) {
-                return false;
-            }
-            for (int i = 0; i < Tape.MOST && (tape.isSign('+') || tape.isSign('-')); i++) {
-                int step = tape.value == '+' ? Rule.ADD : Rule.SUBTRACT;
-                tape.next();
-                if (!term(tape)) {
-                    return false;
-                }
-                put(step);
-            }
-            return true;
-        }
-
-        private boolean term(Tape tape) {
             if (!value(tape)) {
                 return false;
             }
-            for (int i = 0; i < Tape.MOST && multiplying(tape) >= 0; i++) {
-                int step = multiplying(tape);
+            int waiting = NONE;
+            for (int i = 0; i < Tape.MOST; i++) {
+                int step = reckoning(tape);
+                boolean inTerm = step >= Rule.MULTIPLY;
+                if (!inTerm && waiting >= 0) {
+                    put(waiting);
+                }
+                if (step < 0) {
+                    return true;
+                }
                 tape.next();
                 if (!value(tape)) {
                     return false;
                 }
-                put(step);
+                if (inTerm) {
+                    put(step);
+                } else {
+                    waiting = step;
+                }
             }
-            return true;
+            return false;
         }
 
-        private static int multiplying(Tape tape) {
+        private static int reckoning(Tape tape) {
             if (tape.kind != Tape.SIGN) {
                 return NONE;
             }
             switch (tape.value) {
+                case '+': return Rule.ADD;
+                case '-': return Rule.SUBTRACT;
                 case '*': return Rule.MULTIPLY;
                 case '/': return Rule.DIVIDE;
                 case '%': return Rule.REST;
