@@ -1319,6 +1319,8 @@ public final class OneBoots {
     private static final class Trials {
         static final int DAYS_MOST = 30;
         private static final int SEEN_KINDS = 4;
+        // Above what all DAYS can cost together.
+        private static final int COST_ABOVE_ALL = 1000000;
 
         private final World trial = new World();
         private final int[] alike = new int[Lane.PLACES_MOST * SEEN_KINDS];
@@ -1496,7 +1498,7 @@ public final class OneBoots {
         private int costUntilCobbled(int sole, int wornAhead, int w, int f, int from, int next, int n) {
             int worn = wornAhead;
             int holes = 0;
-            int best = Integer.MAX_VALUE;
+            int best = COST_ABOVE_ALL;
             for (int day = from; day <= n; day++) {
                 // Of two DAYS that cost the same the later one is taken, and never is later than all.
                 if (day >= next && holes + cobbledCost[day] <= best) {

@@ -3,6 +3,9 @@ final class EdgesOfAsking extends Edge {
   // Bare feet are FROZEN at PLACE 2; who wears both is at PLACE 3 in HOUR 4, and is paid there.
   private static final String DEEP_SNOW = ";wet 1 9;wet 2 9;wet 3 9;frost 0 23;want 0 3 4 20;want 1 3 4 30;want 2 3 4 25";
   private static final String SNOW = "lane 4 5;brother 0 1;brother 0 2;brother 0 5" + DEEP_SNOW + ";sole 50";
+  // The same with all the BROTHERS and PLACES there can be.
+  private static final String SIX = "lane 10 5" + times(";brother 0 5", 6) + ";wet 1 9;wet 2 9;wet 3 9;frost 0 23;sole 50"
+      + ";want 0 3 4 20;want 1 3 4 21;want 2 3 4 22;want 3 3 4 23;want 4 3 4 24;want 5 3 4 25";
   // All stay at home, all the time: 0 alone at PLACE 0, 1 and 2 (who is too big) at PLACE 3.
   private static final String HOMES = "lane 4 5;brother 0 5;brother 3 4;brother 3 6;boots 3";
 
@@ -24,6 +27,19 @@ final class EdgesOfAsking extends Edge {
     due("four times paid", o.ahead(0, 96, 2), 28);
     due("97", o.ahead(0, 97, 0), NONE);
     due("-1", o.ahead(0, -1, 0), NONE);
+  }
+
+  @Says("where a BROTHER is, CHILL, what he earned so far.")
+  static void promise15_ofEachBrother() {
+    // BROTHER b walks b PLACES, 2 * b times the HOURS there; he is paid there in HOUR 6
+    OneBoots o = ruled("lane 6 5" + times(";brother 0 5", 6) + ";wet 1 1;wet 2 1;wet 3 1;wet 4 1;wet 5 1"
+        + ";want 1 1 6 1;want 2 2 6 2;want 3 3 6 3;want 4 4 6 4;want 5 5 6 5", "walk 1 if place<brother");
+    for (int b = 0; b < 6; b++) {
+      due("PLACE of " + b, o.ahead(b, 7, 0), b);
+      due("CHILL of " + b, o.ahead(b, 7, 1), b == 0 ? 0 : 14);
+      due("earned by " + b, o.ahead(b, 7, 2), b);
+      due("not yet by " + b, o.ahead(b, 6, 2), 0);
+    }
   }
 
   @Says("what he earned so far.")
@@ -167,6 +183,33 @@ final class EdgesOfAsking extends Edge {
     due("8", worn.lend(2, 1), 8);
   }
 
+  @Says("by whom n HOURS earn most")
+  static void promise16_sixBrothersAndTenPlaces() {
+    OneBoots o = on(SIX);
+    due("lend", o.lend(24, 0), 5);
+    due("lend", o.lend(24, 1), 25);
+    due("worth of 5", o.worth(5, 24), 1);
+    due("worth of 4", o.worth(4, 24), 0);
+    due("bids", o.bids(24), 24);
+    due("second", o.second(9, 24, 1), 5);
+    due("second", o.second(9, 24, 0), 25);
+    due("feet", o.feet(0), 7);
+    due("look", o.look(0, 0), 0);
+    due("alike", o.look(0, 1), 6);
+    due("look in HOUR 3", o.look(3, 0), 3);
+    due("alike", o.look(3, 1), 6);
+    o.print(3, 3, 2, true);
+    due("feet by a PRINT", o.feet(0), 6);
+    due("the least", o.feet(1), 0);
+    due("relay", o.relay(4, 0), 0);
+    force(o, "walk 1 if boots=2 and brother=5;walk 0");
+    due("only 5 is left then", o.feet(1), 5);
+    OneBoots r = ruled("lane 10 5" + times(";brother 0 5", 6) + ";want 5 1 1 9", "walk boots*brother/10");
+    due("relay by 5", r.relay(2, 0), 9);
+    due("he", r.relay(2, 1), 5);
+    due("then nobody", r.relay(2, 2), NONE);
+  }
+
   @Says("-2 without these, or a LANE.")
   static void promise16_withoutThese() {
     OneBoots o = on(SNOW);
@@ -252,6 +295,17 @@ final class EdgesOfAsking extends Edge {
     due("9, 3, -4", ruled(lane.replace("1 0 1 5", "1 1 1 3"), "walk boots").bids(2), 3);
   }
 
+  @Says("by how much more than by nobody n HOURS earn")
+  static void promise18_byNobodyTheyLieAtPlace0() {
+    // by nobody 0 walks, since two lie with him: 8, and so the others bid 0 and not 3
+    String lane = "lane 3 5;brother 0 9;brother 1 1;brother 1 1;want 0 1 1 8;want 1 1 1 3;want 2 1 1 3;boots 1";
+    OneBoots o = ruled(lane, "walk lying-1 if brother=0");
+    due("by nobody 14", o.lend(2, 1), 14);
+    due("by 1 or 2 only 6", o.bids(2), 0);
+    OneBoots less = ruled(lane, "walk 1-lying if brother=0");
+    due("by nobody 6, else 14: both bid 8", less.bids(2), 8);
+  }
+
   @Says("BIDS; NONE without these, or a LANE.")
   static void promise18_withoutThese() {
     OneBoots o = on(SNOW);
@@ -333,6 +387,15 @@ final class EdgesOfAsking extends Edge {
     due("an HOUR of the next DAY: nobody", o.relay(3, 1), NONE);
     due("nobody", o.relay(3, 2), NONE);
     due("then he", o.relay(3, 3), 0);
+  }
+
+  @Says("HOURS go on by the RULE IN FORCE.")
+  static void promise19_hoursAsTheyAre() {
+    // 18 an HOUR: with FROST he would be FROZEN in HOUR 2, and not paid in HOUR 3
+    OneBoots o = ruled("lane 4 5;brother 0 9;wet 1 9;wet 2 9;wet 3 9;want 0 3 3 7;want 0 2 2 5", "walk 1");
+    due("no FROST is told", o.relay(4, 0), 12);
+    OneBoots frost = ruled("lane 4 5;brother 0 9;wet 1 9;wet 2 9;wet 3 9;want 0 3 3 7;want 0 2 2 5;frost 0 1", "walk 1");
+    due("FROST is told", frost.relay(4, 0), 0);
   }
 
   @Says("of several the first (nobody ahead of 0): how much, the row.")
@@ -531,6 +594,32 @@ final class EdgesOfAsking extends Edge {
     due("the least", two.feet(1), 0);
   }
 
+  @Says("those by which all PRINTS are so")
+  static void promise21_printsOfSeveralHours() {
+    OneBoots o = ruled("lane 10 0;brother 0 1", "walk 1");
+    for (int n = 9; n >= 1; n--) {
+      o.print(n, n, 0, true);
+      due("PRINT of HOUR " + n, o.feet(0), 1);
+    }
+    o.print(5, 4, 0, true);
+    due("one of ten is not so", o.feet(0), 0);
+    for (int wrong = 0; wrong < 10; wrong++) {
+      o.print(NONE, 0, 0, false);
+      for (int i = 0; i < 10; i++) o.print(3 + i % 4, 3 + i % 4, 0, i != wrong);
+      due("the PRINT " + wrong + " is not so", o.feet(0), 0);
+    }
+  }
+
+  @Says("FEET: a BROTHER who fits, or nobody, wore both from the very first HOUR on")
+  static void promise21_frostAsItIsTold() {
+    // 18 an HOUR: without FROST he is at PLACE 3 in HOUR 3, and FROZEN there
+    String lane = "lane 5 0;brother 0 1;wet 1 9;wet 2 9;wet 3 9;wet 4 9";
+    OneBoots o = ruled(lane, "walk 1");
+    due("HOUR 4", feet(o, 4, 4, 0, true), 1);
+    due("in FROST he stays at PLACE 2", feet(ruled(lane + ";frost 0 23", "walk 1"), 4, 2, 0, true), 1);
+    due("LOOK does as well", ruled(lane, "walk 1").look(4, 1), 1);
+  }
+
   @Says("HOURS go on by the RULE IN FORCE.")
   static void promise21_byTheRuleInForce() {
     OneBoots o = on("lane 4 5;brother 0 5");
@@ -688,6 +777,12 @@ final class EdgesOfAsking extends Edge {
     cobbler(o, 3, 0, 7, 2, 6, NONE);
     due("the other boot is whole", o.cobbler(1, 1, 1, 1, 9, 0), 0);
     due("the other boot is whole", o.cobbler(1, 1, 1, 1, 9, 1), NONE);
+    OneBoots right = ruled("lane 9 0;brother 1 0;sole 5;boots 1", "walk 1");
+    right.wear(1, 0);
+    hours(right, 4);
+    due("right is worn 4", right.cobbler(1, 1, 1, 1, 9, 0), 1);
+    due("ahead of DAY 0", right.cobbler(1, 1, 1, 1, 9, 1), 0);
+    due("left is whole", right.cobbler(0, 1, 1, 1, 9, 0), 0);
   }
 
   @Says("COBBLER what 0: the least it costs, 1: the first DAY (NONE: never). -2 without these.")
@@ -761,6 +856,8 @@ final class EdgesOfAsking extends Edge {
     due("the WORD boots is 2", boots.second(9, 2, 0), 7);
     OneBoots not = ruled("lane 3 5;brother 0 1;brother 0 1;want 1 1 1 7", "walk 1 if boots=2");
     due("of him alone", not.second(9, 2, 1), 1);
+    OneBoots dry = ruled("lane 4 5;brother 0 1;wet 1 9;want 0 2 2 7", "walk 1 if chill=0");
+    due("his CHILL stays 0", dry.second(9, 3, 0), 7);
     OneBoots lying = ruled("lane 3 5;brother 0 1;want 0 1 1 7", "walk lying-1 if boots=2");
     due("the first pair lies as it did", lying.second(9, 2, 0), 7);
   }

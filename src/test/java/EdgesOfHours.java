@@ -147,8 +147,14 @@ final class EdgesOfHours extends Edge {
     for (int i = 0; i < worn.length; i++) {
       due("worn", o.boot(0, 2), worn[i]);
       due("HOLE", o.boot(0, 3), hole[i]);
+      due("HOLE of the right", o.boot(1, 3), hole[i]);
       o.hour();
     }
+    OneBoots right = ruled("lane 6 5;brother 0 5;sole 1;boots 0", "walk 1");
+    right.wear(1, 0);
+    right.hour();
+    due("right has one", right.boot(1, 3), 1);
+    due("left has none", right.boot(0, 3), 0);
   }
 
   // ---- 9: wet ------------------------------------------------------------------------------
@@ -462,6 +468,39 @@ final class EdgesOfHours extends Edge {
     due("the DAY is over", o.brother(0, 4), 0);
   }
 
+  @Says("CHILL of each BROTHER")
+  static void promise10_sixBrothersAtOnce() {
+    // BROTHER b walks b + 1 PLACES, where it is the wetter the farther
+    String lane = "lane 7 5" + times(";brother 0 5", 6) + ";wet 1 1;wet 2 2;wet 3 3;wet 4 4;wet 5 5;wet 6 6";
+    String wants = ";want 0 1 7 10;want 1 2 7 11;want 2 3 7 12;want 3 4 7 13;want 4 5 7 14;want 5 6 7 15"
+        + ";want 3 4 8 1;want 4 5 8 1;want 5 6 8 1";
+    OneBoots o = ruled(lane + wants, "walk 1 if hour<brother+1");
+    hours(o, 7);
+    due("HOUR 7: all", o.hour(), 75);
+    sixRows("HOUR 8", o, new int[] {1, 2, 3, 4, 5, 6}, new int[] {16, 30, 42, 52, 60, 66}, new int[] {0, 0, 0, 0, 1, 1});
+    due("HOUR 8: only 3 is not FROZEN", o.hour(), 1);
+    sixRows("HOUR 9", o, new int[] {1, 2, 3, 4, 5, 6}, new int[] {18, 34, 48, 60, 70, 78}, new int[] {0, 0, 0, 1, 1, 1});
+    force(o, "walk 0-1");
+    o.hour();
+    sixRows("HOUR 10", o, new int[] {0, 1, 2, 4, 5, 6}, new int[] {14, 36, 52, 68, 80, 90}, new int[] {0, 0, 0, 1, 1, 1});
+    o.hour();
+    sixRows("HOUR 11", o, new int[] {0, 0, 1, 4, 5, 6}, new int[] {10, 32, 54, 76, 90, 99}, new int[] {0, 0, 0, 1, 1, 1});
+    int[] earned = {10, 11, 12, 14, 14, 15};
+    for (int b = 0; b < 6; b++) due("earned by " + b, o.brother(b, 6), earned[b]);
+    due("earned by all", o.count(9), 76);
+    hours(o, 13);
+    sixRows("DAY 1", o, new int[6], new int[6], new int[6]);
+    for (int b = 0; b < 6; b++) due("earned by " + b, o.brother(b, 6), earned[b]);
+  }
+
+  private static void sixRows(String when, OneBoots o, int[] places, int[] chills, int[] frozen) {
+    for (int b = 0; b < 6; b++) {
+      due(when + ", PLACE of " + b, o.brother(b, 0), places[b]);
+      due(when + ", CHILL of " + b, o.brother(b, 3), chills[b]);
+      due(when + ", FROZEN " + b, o.brother(b, 4), frozen[b]);
+    }
+  }
+
   // ---- 10: hour, (4) -----------------------------------------------------------------------
 
   @Says("HOUR is 1 more; behind 23 it is 0, DAY 1 more (999 at most), each BROTHER is at home with the boots he wears, "
@@ -634,6 +673,9 @@ final class EdgesOfHours extends Edge {
     due("earned by him", o.brother(0, 6), 7);
     due("3 are left", o.cobble(1), 3);
     due("spent", o.count(10), 20);
+    due("worn 0", o.boot(1, 2), 0);
+    due("where he is", o.boot(1, 1), 2);
+    due("still there", o.off(1), 2);
   }
 
   @Says("how much is left unspent; NONE, and nothing happens, without these (worn at all, 10 unspent).")

@@ -264,6 +264,7 @@ final class EdgesOfKeeping extends Edge {
     o.seed(99);
     o.force(NONE);
     o.print(NONE, 0, 0, false);
+    o.print(2, 2, 2, true);
     hours(o, 30);
     tellLane(o, "lane 9 9;brother 8 8;wet 1 1;frost 0 0;frost 1 1;want 0 1 1 1;sole 50;boots 7");
     hours(o, 3);
@@ -274,6 +275,27 @@ final class EdgesOfKeeping extends Edge {
     o.hour();
     due("back again", o.back(2), 1);
     sameAs("back again", o, then);
+  }
+
+  @Says("all but the TAPE and the RULES, as it is (the RULE IN FORCE, too)")
+  static void promise29_printsAsTheyWere() {
+    OneBoots o = on("lane 3 5;brother 0 5;brother 1 5");
+    o.print(0, 0, 2, true);
+    o.image(0);
+    o.print(NONE, 0, 0, false);
+    o.print(0, 1, 2, true);
+    o.image(1);
+    o.print(1, 1, 1, true);
+    due("none", o.feet(0), 0);
+    o.back(0);
+    due("0", o.feet(1), 0);
+    due("one PRINT", o.count(11), 1);
+    o.back(1);
+    due("1", o.feet(1), 1);
+    due("one PRINT", o.count(11), 1);
+    o.print(NONE, 0, 0, false);
+    o.back(0);
+    due("0 again", o.feet(1), 0);
   }
 
   @Says("(these stay; nothing can be UNDONE then).")

@@ -129,6 +129,33 @@ final class EdgesOfTexts extends Edge {
   }
 
   @Says("The TAPE has its first n bytes alone: n")
+  static void promise03_whatIsCutOffDoesNotCount() {
+    // what lies behind the end would make the last sign, NUMBER or WORD another one
+    String[] kept = {"walk 1 if 1<~", "walk 1 if 1>~", "walk 1 if 1=1 ~an"};
+    String[] cut = {"=2", "=2", "d 1=1"};
+    for (int i = 0; i < kept.length; i++) {
+      OneBoots o = new OneBoots();
+      String text = kept[i].replace("~", "");
+      put(o, text + cut[i]);
+      o.end(text.length());
+      due(text, o.rule(), fault(kept[i].indexOf('~'), 0));
+    }
+    OneBoots word = new OneBoots();
+    put(word, "walk places");
+    word.end(10);
+    due("walk place", word.rule(), 0);
+    OneBoots number = new OneBoots();
+    put(number, "lane 2 999999");
+    number.end(8);
+    due("lane 2 9", number.lane(), 0);
+    due("SIZE", number.count(1), 9);
+    ruleFault("walk 1 if 1" + times(" ", 388) + "<~", 0);
+    ruleFault("walk 1 if 1" + times(" ", 388) + ">~", 0);
+    laneFault("lane 2 ~" + times("1", 393), 1);
+    ruleFault("~" + times("w", 400), 0);
+  }
+
+  @Says("The TAPE has its first n bytes alone: n")
   static void promise03_allOrNoneOfTheBytes() {
     OneBoots o = new OneBoots();
     due("none of none", o.end(0), 0);
@@ -601,6 +628,17 @@ final class EdgesOfTexts extends Edge {
     due("not [", way("walk 1 if not [1=2 or 1=1]"), 0);
     due("[ or ] and", way("walk 1 if [1=1 or 1=1] and 1=2"), 0);
     due("[[]]", way("walk 1 if [[1=1]]"), 1);
+    String[] holds = {"1<2", "1<=2", "2=2", "2>=1", "2>1"};
+    for (String h : holds) {
+      due("not " + h, way("walk 1 if not " + h), 0);
+      due("not not " + h, way("walk 1 if not not " + h), 1);
+      for (String g : holds) {
+        due(h + " and " + g, way("walk 1 if " + h + " and " + g), 1);
+        due(h + " and not " + g, way("walk 1 if " + h + " and not " + g), 0);
+        due("not " + h + " or not " + g, way("walk 1 if not " + h + " or not " + g), 0);
+        due("not " + h + " or " + g, way("walk 1 if not " + h + " or " + g), 1);
+      }
+    }
     ruleFault("walk 1 if [~]", 0);
     ruleFault("walk 1 if [1=1~", 0);
     ruleFault("walk 1 if [1=1~;walk 1", 0);
@@ -693,6 +731,32 @@ final class EdgesOfTexts extends Edge {
     for (String s : of0) holds(lane, 0, s, true);
   }
 
+  @Says("day, goal (the PLACE of his next WANT), pay (of that), until (HOURS till it)")
+  static void promise05_wordsLaterOn() {
+    OneBoots o = on("lane 6 5;brother 2 5;brother 0 5;want 1 1 9 9;want 0 4 3 30;want 0 5 20 7;wet 3 4");
+    force(o, "walk 0");
+    hours(o, 4);
+    force(o, "walk 1 if goal=5 and pay=7 and until=16 and hour=4 and day=0");
+    due("his second, the third of all", o.ahead(0, 1, 0), 3);
+    force(o, "walk 1 if place<3;walk 1 if chill=16");
+    due("8 an HOUR", o.ahead(0, 2, 0), 3);
+    due("CHILL 16 behind the second", o.ahead(0, 3, 0), 4);
+    due("his brother comes to PLACE 3 behind three", o.ahead(1, 4, 0), 3);
+    due("and has CHILL 16 behind two more", o.ahead(1, 5, 0), 4);
+    o.force(0);
+    hours(o, 44);
+    force(o, "walk day-1");
+    due("DAY 2", o.count(8), 2);
+    due("day is 2", o.ahead(0, 1, 0), 3);
+    due("two HOURS ahead of it", tellUndo(o, 2), 1);
+  }
+
+  /** How far he walks now, some ACTS back. */
+  private static int tellUndo(OneBoots o, int n) {
+    for (int i = 0; i < n; i++) o.undo();
+    return o.ahead(0, 1, 0) - o.brother(0, 0) + 1;
+  }
+
   @Says("boots (how many he wears), chill, others (at his PLACE), lying (boots that lie there).")
   static void promise05_wordsOfBoots() {
     OneBoots o = on("lane 6 5;brother 2 5;brother 2 4;boots 2");
@@ -766,6 +830,15 @@ final class EdgesOfTexts extends Edge {
     due("it holds", way("walk 1 if " + times("not[", 4) + "[[1=1]]" + times("]", 4)), 1);
     due("10 times not", way("walk 1 if " + times("not ", 10) + "1=1"), 1);
     due("9 times not", way("walk 1 if " + times("not ", 9) + "1=1"), 0);
+  }
+
+  @Says("[ and not lie within one another 10 deep at most")
+  static void promise05_deepWithOrAndAndAtEachLevel() {
+    // each level waits with both, and what lies innermost decides
+    String open = times("1=2 or 1=1 and[", 9);
+    due("it holds", way("walk 1 if " + open + "5-2*2=1" + times("]", 9)), 1);
+    due("it does not", way("walk 1 if " + open + "1=2" + times("]", 9)), 0);
+    due("not", way("walk 1 if " + open + "not 1=2" + times("]", 9)), 1);
   }
 
   @Says("[ and not lie within one another 10 deep at most")
@@ -844,6 +917,24 @@ final class EdgesOfTexts extends Edge {
     ruleFault("walk 1" + times(";walk 1", 11) + ";~wulk 1", 0);
     ruleFault("walk 1" + times(";walk 1", 11) + ";~", 0);
     ruleFault("walk 1" + times(";walk 1", 11) + ";~walks", 0);
+  }
+
+  @Says("The TAPE, which is empty then, is a RULE: its number")
+  static void promise05_aShorterRuleBehindALongerOne() {
+    OneBoots o = on("lane 3 5;brother 1 5");
+    tellRule(o, "walk 0 if 1=2;walk 1 if 1=1;walk 1;walk 1");
+    tellRule(o, "walk 1 if 1=2");
+    due("the longer", ruleWay(o, 0), 1);
+    due("of the longer nothing is left in the shorter", ruleWay(o, 1), 0);
+    tellRule(o, "walk 1 if 1=2;walk 0-1 if 2=2;x");
+    due("nor of one with a FAULT", tellRule(o, "walk 1 if 1=2;walk 1 if 2=1"), 2);
+    due("none holds", ruleWay(o, 2), 0);
+    due("the longer still", ruleWay(o, 0), 1);
+  }
+
+  private static int ruleWay(OneBoots o, int rule) {
+    o.force(rule);
+    return o.ahead(0, 1, 0) - 1;
   }
 
   // ---- 6: force ----------------------------------------------------------------------------
